@@ -480,7 +480,7 @@ public final class DeltaNights {
             return part >= 0 && part < parts && part < ends.length ? ends[part] : 0;
         }
 
-        /** The bytes of a link of this file: a difference behind this link, or a base behind none. */
+        /** The bytes of a link of this file: a difference behind a link, or a base behind none. */
         int linkBytes(Link latest) {
             int sum = parts;
             for (int part = 0; part < parts; part++) {
@@ -587,11 +587,11 @@ public final class DeltaNights {
         }
 
         boolean isRun(ByteFile file, int start, int many) {
-            if (many != cells.length) {
+            if (many != cells.length || start < 0 || start > file.cells.length - many) {
                 return false;
             }
             for (int i = 0; i < cells.length; i++) {
-                if (cells[i] != file.byteAt(start + i)) {
+                if (cells[i] != file.cells[start + i]) {
                     return false;
                 }
             }
@@ -624,8 +624,8 @@ public final class DeltaNights {
         }
 
         boolean hasAheadOf(int end, Chunk chunk) {
-            for (int i = 0; i < end && i < count; i++) {
-                if (chunkAt(i) == chunk) {
+            for (int i = 0; i < end && i < count && i < chunks.length; i++) {
+                if (chunks[i] == chunk) {
                     return true;
                 }
             }
@@ -676,7 +676,7 @@ public final class DeltaNights {
         }
     }
 
-    /** What a client got in a night: a base, or a difference that stands on the link ahead of it. */
+    /** What a client got in a night: a base, or a difference that stands on an earlier link. */
     private static final class Link {
         final Link earlier;
         final ChunkRow row = new ChunkRow();
@@ -764,7 +764,7 @@ public final class DeltaNights {
         private Chunk latest = null;
         int kept = 0;
 
-        /** Makes the link of a file that is freshly cut, behind a link of its chain or behind none. */
+        /** Makes the link of a file that was just cut: a base, where there is no earlier link. */
         Link linkFor(ByteFile file, Link earlier) {
             Link link = new Link(earlier);
             for (int part = 0; part < file.parts; part++) {
@@ -837,7 +837,7 @@ public final class DeltaNights {
             return bid > 0 && bid >= reserve && (wantsBase(reserve) || wantsDifference());
         }
 
-        /** Settles what this client gets of the room that is left, and tells how much room it takes. */
+        /** Settles what this client gets, and tells how much of the room that is left it takes. */
         int takeTurn(int left, int reserve) {
             if (wantsBase(reserve)) {
                 int size = file.linkBytes(null);
@@ -865,7 +865,7 @@ public final class DeltaNights {
         }
     }
 
-    /** Sells the room of a night; what comes of it stands in the clients, and nothing is served yet. */
+    /** Sells the room of a night; its outcome stands in the clients, and nothing is served yet. */
     private static final class Market {
         private final Client[] turns = new Client[CLIENTS];
         int room = 200;

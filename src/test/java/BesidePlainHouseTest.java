@@ -6,7 +6,7 @@ import java.util.Comparator;
 import java.util.List;
 import java.util.Random;
 
-/** Long runs of calls, the same for DeltaNights and PlainHouse; each must answer what the other does. */
+/** Long runs of calls, made of DeltaNights and of PlainHouse, and each must answer the same. */
 public final class BesidePlainHouseTest {
 
     private static final int RUNS = 1500;

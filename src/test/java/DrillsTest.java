@@ -108,6 +108,29 @@ public final class DrillsTest {
         Check.due("0 minutes", house.hourBits(0, 3), 0);
         house.setSpeed(30, 1);
         Check.due("66 minutes", house.hourBits(0, 2), Float.floatToIntBits(1.1f));
+        tellsBitsOfManyHours();
+    }
+
+    /** Each night adds a chunk, so that night n mounts n + 1 links, up to some twenty hours. */
+    private static void tellsBitsOfManyHours() {
+        DeltaNights house = new DeltaNights();
+        house.setMarks(0, 1, 1);
+        house.setSpeed(30, 1);
+        house.setNight(500, 1);
+        house.bid(0, 1);
+        for (int night = 0; night < 40; night++) {
+            house.put(0, night, night);
+            house.night();
+            Check.due("mounts", house.mounts(0, night), night + 1);
+            Check.dueFloat("minutes", house.minutes(0, night), 32f * (night + 1));
+            Check.due("hourBits", house.hourBits(0, night),
+                    Float.floatToIntBits(32f * (night + 1) / 60f));
+        }
+        house.setSpeed(29, 2);
+        Check.dueFloat("four hours", house.minutes(0, 7), 240f);
+        Check.due("bits of four hours", house.hourBits(0, 7), Float.floatToIntBits(4f));
+        Check.dueFloat("one hour", house.minutes(0, 1), 60f);
+        Check.due("bits of one hour", house.hourBits(0, 1), Float.floatToIntBits(1f));
     }
 
     private static void setsPromises() {
@@ -122,6 +145,9 @@ public final class DrillsTest {
                     () -> house.promise(promise[0], promise[1], promise[2]));
             Check.due("drill after a refused promise", house.drill(0), 42);
         }
+        house.promise(0, 60, 0);
+        Check.due("a coin of 0", house.drill(0), 0);
+        house.promise(0, 60, 7);
         house.promise(1, 0, 100);
         Check.due("another client's promise", house.drill(0), 42);
         house.promise(0, 600, 100);

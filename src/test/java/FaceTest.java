@@ -95,7 +95,13 @@ public final class FaceTest {
     private static void looksAtClassesInside(Class<?> house) {
         Class<?>[] inside = house.getDeclaredClasses();
         Check.dueTrue("at most twelve classes", inside.length <= 12);
+        Set<String> names = Arrays.stream(FACE).map(told -> told.replaceAll("^\\w+ |\\(.*", ""))
+                .collect(Collectors.toSet());
+        Check.due("names of the face", names.size(), FACE.length);
         for (Class<?> one : inside) {
+            for (Method method : one.getDeclaredMethods()) {
+                Check.dueTrue("another name than " + method, !names.contains(method.getName()));
+            }
             Check.dueTrue("static " + one, Modifier.isStatic(one.getModifiers()));
             Check.dueTrue("not public " + one, !Modifier.isPublic(one.getModifiers())
                     && !Modifier.isProtected(one.getModifiers()));

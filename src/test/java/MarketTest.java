@@ -73,6 +73,22 @@ public final class MarketTest {
         first.put(2, 0, 7);
         Check.due("192 of 200 bytes, and 10 more", first.would(2), 2);
         Check.due("the first one", first.would(0), 1);
+
+        // 96 + 96 + 8 are 200 bytes; a chunk once more is one byte more, and does not fit.
+        for (int last = 4; last <= 5; last++) {
+            DeltaNights full = houseOfChunks(1);
+            for (int client = 0; client < 2; client++) {
+                for (int i = 0; i < 48; i++) {
+                    full.put(client, i, i);
+                }
+                full.bid(client, 9);
+            }
+            for (int i = 0; i < last; i++) {
+                full.put(2, i, Math.min(i, 3));
+            }
+            full.bid(2, 1);
+            Check.due("the room is 200 at first, " + last, full.would(2), last == 4 ? 1 : 0);
+        }
     }
 
     private static void takesBids() {
@@ -227,6 +243,18 @@ public final class MarketTest {
         Check.due("a difference with room", house.would(0), 2);
         house.setNight(200, 10);
         Check.due("a bid below the reserve", house.would(0), 0);
+
+        DeltaNights full = houseOfChunks(5);
+        for (int i = 0; i < 48; i++) {
+            full.put(0, i, i);
+        }
+        full.bid(0, 1);
+        full.night();
+        Check.due("the row of a full file as before", full.would(0), 0);
+        Check.due("its difference holds nothing", full.forDifference(0), 10);
+        full.set(0, 47, 99);
+        Check.due("the last byte of a full file", full.would(0), 2);
+        Check.due("its difference holds one chunk", full.forDifference(0), 10 + 3);
     }
 
     private static void wouldChangesNothing() {
@@ -299,6 +327,9 @@ public final class MarketTest {
         Check.due("would(1)", house.would(1), 1);
         Check.due("night()", house.night(), 1);
         Check.due("paid(1): who was not served had its turn ahead", house.paid(1), 2 * 2);
+        house.put(1, 0, 2);
+        house.setNight(3, 2);
+        Check.due("who is not served takes no room", house.would(1), 2);
     }
 
     /** Bids 9, 7, 5, 3: the second and the fourth are too large, so the first pays 7, the third 3. */
@@ -418,6 +449,7 @@ public final class MarketTest {
         Check.due("nothing is served", house.paid(0), paid);
         Check.due("got(0, 59)", house.got(0, 59), 2);
         Check.dueNoPlace("got(0, 60)", () -> house.got(0, 60));
+        Check.due("dayOf(0, 59)", house.dayOf(0, 59), 59);
         Check.due("chain(0)", house.chain(0), 59);
     }
 }
