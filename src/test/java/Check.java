@@ -2,8 +2,18 @@
 final class Check {
     private static int passed = 0;
     private static int failed = 0;
+    private static String about = "";
 
     private Check() {
+    }
+
+    /** What the checks to come are about; it is told ahead of each fault. */
+    static void about(String told) {
+        about = told;
+    }
+
+    static int made() {
+        return passed + failed;
     }
 
     static void due(String call, long got, long want) {
@@ -12,6 +22,10 @@ final class Check {
 
     static void dueFloat(String call, float got, float want) {
         tell(got == want, call + " answered " + got + ", due is " + want);
+    }
+
+    static void dueText(String call, String got, String want) {
+        tell(got.equals(want), call + " answered " + got + ", due is " + want);
     }
 
     static void dueTrue(String claim, boolean holds) {
@@ -67,7 +81,7 @@ final class Check {
             passed++;
         } else {
             failed++;
-            System.out.println(fault);
+            System.out.println(about + fault);
         }
     }
 }

@@ -127,11 +127,11 @@ public final class ChunksTest {
 
     /** Each chunk of each cut is looked at by the words of the document. */
     private static void cutsByBits() {
-        DeltaNights house = new DeltaNights();
-        for (int i = 0; i < 48; i++) {
-            house.put(0, i, (i * 37 + i * i * 11) % 256);
-        }
         for (int bits = 0; bits <= 8; bits++) {
+            DeltaNights house = new DeltaNights();
+            for (int i = 0; i < 48; i++) {
+                house.put(0, i, (i * 37 + i * i * 11) % 256);
+            }
             house.setMarks(bits, 2, 9);
             int start = 0;
             for (int chunk = 0; chunk < house.chunks(0); chunk++) {

@@ -89,10 +89,8 @@ public final class DrillsTest {
     }
 
     private static void tellsBitsOfHours() {
-        DeltaNights house = houseOfThreeNights();
-        house.cut(0, 0, 4);
-        house.night();
         for (int mount = 0; mount <= 30; mount++) {
+            DeltaNights house = houseOfFourNights();
             for (int speed = 1; speed <= 50; speed++) {
                 house.setSpeed(mount, speed);
                 for (int night = 0; night < 4; night++) {
@@ -102,6 +100,7 @@ public final class DrillsTest {
                 }
             }
         }
+        DeltaNights house = houseOfFourNights();
         house.setSpeed(5, 4);
         Check.due("5 minutes", house.hourBits(0, 3), 1034594987);
         house.setSpeed(0, 1);
@@ -109,6 +108,14 @@ public final class DrillsTest {
         house.setSpeed(30, 1);
         Check.due("66 minutes", house.hourBits(0, 2), Float.floatToIntBits(1.1f));
         tellsBitsOfManyHours();
+    }
+
+    /** An empty day behind the three nights. */
+    private static DeltaNights houseOfFourNights() {
+        DeltaNights house = houseOfThreeNights();
+        house.cut(0, 0, 4);
+        house.night();
+        return house;
     }
 
     /** Each night adds a chunk, so that night n mounts n + 1 links, up to some twenty hours. */
