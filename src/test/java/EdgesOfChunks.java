@@ -121,6 +121,32 @@ final class EdgesOfChunks {
         Check.write(house, 1, 1, 0, 0, 0);
         house.night();
         Check.due("the same in two files are one", house.store(), 4);
+        for (int one = 0; one < 24; one++) {
+            for (int other = one + 1; other < 24; other += 5) {
+                dueSameChunks(one, other);
+            }
+        }
+    }
+
+    /** 24 chunks of two bytes, of which two are the same, in whatever places of the row. */
+    private static void dueSameChunks(int one, int other) {
+        DeltaNights house = Scene.ofChunks(2);
+        for (int i = 0; i < 48; i++) {
+            int chunk = i / 2 == other ? one : i / 2;
+            house.put(0, i, 2 * chunk + i % 2);
+        }
+        String when = "the chunks " + one + " and " + other;
+        Check.due(when + ": forBase(0)", house.forBase(0), 24 + 46);
+        house.bid(0, 1);
+        house.night();
+        Check.due(when + ": held(0, 0)", house.held(0, 0), 23);
+        Check.due(when + ": store()", house.store(), 23);
+        Check.due(when + ": bytes(0, 0)", house.bytes(0, 0), 24 + 46);
+        house.set(0, 2 * one, 200);
+        house.set(0, 2 * other, 200);
+        Check.due(when + ", changed: forDifference(0)", house.forDifference(0), 24 + 2);
+        house.set(0, 2 * other + 1, 201);
+        Check.due(when + ", unlike: forDifference(0)", house.forDifference(0), 24 + 4);
     }
 
     /** A file of one byte again and again. */
