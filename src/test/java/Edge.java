@@ -39,7 +39,7 @@ final class Edge {
     static void dueAll() {
         closeSentence();
         Check.about("");
-        if (!Files.exists(DOCUMENT)) {
+        if (!hasDocument()) {
             System.out.println("the sentences were not compared, as there is no " + DOCUMENT);
             return;
         }
@@ -96,13 +96,16 @@ final class Edge {
         return found;
     }
 
-    /** Headings and what the interface says ahead of its calls rule nothing, nor do the summaries. */
+    /** Headings, and what the interface says ahead of its calls, rule nothing. */
     private static boolean rules(String sentence) {
-        return sentence.endsWith(".") && !sentence.startsWith("Ahead of the calls")
-                && !sentence.startsWith("Callers write files") && !sentence.startsWith("A backup house");
+        return sentence.endsWith(".") && !sentence.startsWith("Ahead of the calls");
     }
 
-    private static List<String> document() {
+    static boolean hasDocument() {
+        return Files.exists(DOCUMENT);
+    }
+
+    static List<String> document() {
         try {
             return Files.readAllLines(DOCUMENT);
         } catch (IOException e) {

@@ -7,10 +7,115 @@ final class EdgesOfUse {
     }
 
     static void check() {
+        aBackupHouse();
+        whatCallersDo();
         whenACallThrows();
         manyRefusedCalls();
         lastCallOfEach();
         lastCallsOfADearRun();
+    }
+
+    /** The first sentence of the document, part by part, in one house. */
+    private static void aBackupHouse() {
+        DeltaNights house = new DeltaNights();
+        Edge.ofTerms("files of bytes that are cut into chunks where a rolling mark tells,");
+        for (int place = 0; place < 48; place++) {
+            house.put(0, place, place * place * 5 % 256);
+        }
+        house.setMarks(2, 1, 24);
+        dueEndsWhereMarksTell(house, 0, 2);
+
+        Edge.ofTerms("chains of differences on bases,");
+        house.bid(0, 9);
+        int[] got = {1, 2, 2};
+        for (int night = 0; night < 3; night++) {
+            house.set(0, 20, 200 + night);
+            Check.due("served in night " + night, house.night(), 1);
+            Check.due("got in night " + night, house.got(0, night), got[night]);
+            Check.due("chain behind night " + night, house.chain(0), night);
+        }
+
+        Edge.ofTerms("nights whose bytes are sold by bids,");
+        house.set(0, 20, 203);
+        house.put(1, 0, 1);
+        house.bid(1, 7);
+        house.setNight(house.forDifference(0) + 1, 0);
+        int paid = house.paid(0);
+        Check.due("served in night 3", house.night(), 1);
+        Check.due("paid by who bids 9", house.paid(0) - paid, 7 * house.bytes(0, 3));
+        Check.due("paid by who bids 7", house.paid(1), 0);
+
+        Edge.ofTerms("bases that are made anew when a chain is long and the night is cheap,");
+        int[][] rows = {{4, 3, 2}, {3, 4, 2}, {3, 3, 1}};
+        for (int[] row : rows) {
+            house.setChain(0, row[0], 3);
+            house.setNight(500, row[1]);
+            house.set(0, 20, 204 + row[0]);
+            String when = "a bound of " + row[0] + ", a reserve of " + row[1] + ": would(0)";
+            Check.due(when, house.would(0), row[2]);
+        }
+
+        Edge.ofTerms("drills that time how long a day takes to bring back, and promises of minutes that are"
+                + " paid when they are broken.");
+        for (int minutes = 0; minutes < 60; minutes++) {
+            house.promise(0, minutes, 2);
+            double more = Math.max(Math.ceil(house.minutes(0, 3)) - minutes, 0);
+            Check.due("a drill, promised are " + minutes, house.drill(0), (int) more * 2);
+        }
+        Check.dueTrue("some promises are broken, some are not", house.minutes(0, 3) > 1
+                && house.minutes(0, 3) < 59);
+    }
+
+    /** With a least of 1: each chunk ends at a mark, at 24 bytes or with the file, and nowhere else. */
+    private static void dueEndsWhereMarksTell(DeltaNights house, int client, int bits) {
+        int chunk = 0;
+        int start = 0;
+        int marked = 0;
+        int length = house.length(client);
+        for (int place = 0; place < length; place++) {
+            boolean isMarked = house.mark(client, place) % (1 << bits) == 0;
+            if (isMarked || place + 1 - start == 24 || place + 1 == length) {
+                Check.due("end(" + client + ", " + chunk + ")", house.end(client, chunk), place + 1);
+                marked += isMarked ? 1 : 0;
+                start = place + 1;
+                chunk++;
+            }
+        }
+        Check.due("chunks(" + client + ")", house.chunks(client), chunk);
+        Check.dueTrue("some chunks end at marks", marked > 3);
+        house.copy(client, length - 4, 4, 3);
+        Check.due("a mark of the last four bytes alone", house.mark(3, 3), house.mark(client, length - 1));
+    }
+
+    private static void whatCallersDo() {
+        Edge.ofTerms("Callers write files, bid, let nights go by, promise and drill, and ask; a day is brought"
+                + " back from the links of its chain, and from the chunks alone.");
+        DeltaNights house = new DeltaNights();
+        int days = 12;
+        long[] digests = new long[days];
+        int[][] files = new int[days][];
+        house.setChain(0, 2, 50);
+        house.bid(0, 9);
+        for (int night = 0; night < days; night++) {
+            house.put(0, night / 2, night * 37 % 256);
+            house.put(0, house.length(0), night * night % 256);
+            files[night] = new int[house.length(0)];
+            for (int place = 0; place < files[night].length; place++) {
+                files[night][place] = house.at(0, place);
+            }
+            digests[night] = house.digest(0);
+            Check.due("served in night " + night, house.night(), 1);
+        }
+        Check.due("chain(0)", house.chain(0), 2);
+        for (int night = days - 1; night >= 0; night--) {
+            Check.due("digestOf(0, " + night + ")", house.digestOf(0, night), digests[night]);
+            Check.due("digestByChunks(0, " + night + ")", house.digestByChunks(0, night), digests[night]);
+            house.restore(0, night);
+            Check.due("digest(0) of day " + night, house.digest(0), digests[night]);
+            for (int place = 0; place < files[night].length; place++) {
+                Check.due("at(0, " + place + ") of day " + night, house.at(0, place), files[night][place]);
+            }
+        }
     }
 
     /** Calls in which more than one thing is wrong; those of one fault stand with the promises. */
