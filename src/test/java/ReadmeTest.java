@@ -53,43 +53,44 @@ public final class ReadmeTest {
         return blocks;
     }
 
-    /** In one copy of the project, from the first step to the last. */
+    /** Each step in a copy of its own, so that none of them leans on another. */
     private static void follow(List<Block> blocks) throws IOException {
         int steps = 0;
         int programs = 0;
-        Workroom.Outcome outcome = null;
-        try (Workroom room = new Workroom().copy(PAGE).copy("src").copy(".ci")) {
-            for (Block block : blocks) {
-                switch (block.kind) {
-                    case "java":
-                        dueProgram(block);
-                        programs++;
-                        break;
-                    case "sh":
-                        outcome = followed(block.text, room);
-                        Check.due("the exit code of '" + block.text + "'", outcome.exit, 0);
-                        steps++;
-                        break;
-                    case "text":
-                        Check.dueText("the step ahead", outcome == null ? "" : outcome.printed, block.text);
-                        break;
-                    default:
-                        Check.dueTrue("a known kind of '" + block.text + "'", false);
-                }
+        String printed = "";
+        for (Block block : blocks) {
+            switch (block.kind) {
+                case "java":
+                    dueProgram(block);
+                    programs++;
+                    break;
+                case "sh":
+                    printed = followed(block.text);
+                    steps++;
+                    break;
+                case "text":
+                    Check.dueText("the step ahead", printed, block.text);
+                    break;
+                default:
+                    Check.dueTrue("a known kind of '" + block.text + "'", false);
             }
         }
         Check.due("programs", programs, 1);
         Check.due("steps: for the class, for all tests, for one test", steps, 3);
     }
 
+    private static String followed(String step) throws IOException {
+        try (Workroom room = roomFor(step)) {
+            Workroom.Outcome outcome = room.run(step);
+            Check.due("the exit code of '" + step + "'", outcome.exit, 0);
+            return outcome.printed;
+        }
+    }
+
     /** The script would run this very test, so it is followed in a project with other tests. */
-    private static Workroom.Outcome followed(String step, Workroom room) throws IOException {
-        if (!step.strip().equals(RunTest.SCRIPT)) {
-            return room.run(step);
-        }
-        try (Workroom other = RunTest.passing()) {
-            return other.run(step);
-        }
+    private static Workroom roomFor(String step) throws IOException {
+        return step.strip().equals(RunTest.SCRIPT) ? RunTest.passing()
+                : new Workroom().copy(PAGE).copy("src").copy(".ci");
     }
 
     /** The program that the page shows is the file that it names. */
